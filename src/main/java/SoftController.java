@@ -256,7 +256,14 @@ public final class SoftController {
     public int load(boolean warm) {
         tokens.read(tapeBytes);
         tapeBytes = 0;
-        if (isSound()) {
+        boolean sound = true;
+        try {
+            grammar.check();
+            maker.make(draft);
+        } catch (IllegalStateException refused) {
+            sound = false;
+        }
+        if (sound) {
             install(warm);
         }
         return tokens.fault;
@@ -506,16 +513,6 @@ public final class SoftController {
         for (int shift = 24; shift >= 0 && tapeBytes < TAPE_BYTES; shift -= 8) {
             tape[tapeBytes] = (byte) (number >> shift);
             tapeBytes++;
-        }
-    }
-
-    private boolean isSound() {
-        try {
-            grammar.check();
-            maker.make(draft);
-            return true;
-        } catch (IllegalStateException refused) {
-            return false;
         }
     }
 
@@ -794,11 +791,11 @@ public final class SoftController {
         }
 
         long takeBounded(long least, long most) {
-            int where = places[at];
-            long number = takeNumber();
-            if (number < least || number > most) {
-                refuse(BAD_BOUND, where);
+            long number = values[at];
+            if ((tails[at] & IS_ABOVE) != 0 || number < least || number > most) {
+                refuse(BAD_BOUND, places[at]);
             }
+            next();
             return number;
         }
 
@@ -1072,23 +1069,15 @@ public final class SoftController {
             open = 0;
             tokens.rewind();
             for (int n = 0; n <= MOST_TOKENS && !tokens.is(THE_END); n++) {
-                item();
-            }
-        }
-
-        private void item() {
-            int word = tokens.type();
-            if (word < WORD_VAR || word > WORD_TASK || word == WORD_AT) {
-                tokens.refuseToken();
-            }
-            tokens.next();
-            switch (word) {
-                case WORD_VAR: case WORD_KEEP: variables(); break;
-                case WORD_IN: case WORD_OUT: placed(); break;
-                case WORD_BLOCK: routine(); break;
-                case WORD_USE: uses(); break;
-                case WORD_FUNC: kind(); routine(); break;
-                default: cyclic(); break;
+                switch (tokens.type()) {
+                    case WORD_VAR: case WORD_KEEP: variables(); break;
+                    case WORD_IN: case WORD_OUT: placed(); break;
+                    case WORD_BLOCK: tokens.next(); routine(); break;
+                    case WORD_USE: uses(); break;
+                    case WORD_FUNC: tokens.next(); kind(); routine(); break;
+                    case WORD_TASK: cyclic(); break;
+                    default: tokens.refuseToken(); break;
+                }
             }
         }
 
@@ -1100,6 +1089,7 @@ public final class SoftController {
         }
 
         private void variables() {
+            tokens.next();
             kind();
             oneVariable();
             for (int n = 0; n < MOST_TOKENS && tokens.is(','); n++) {
@@ -1133,6 +1123,7 @@ public final class SoftController {
         }
 
         private void placed() {
+            tokens.next();
             kind();
             tokens.take(A_NAME);
             tokens.take(WORD_AT);
@@ -1141,6 +1132,7 @@ public final class SoftController {
         }
 
         private void uses() {
+            tokens.next();
             tokens.take(A_NAME);
             tokens.take(A_NAME);
             for (int n = 0; n < MOST_TOKENS && tokens.is(','); n++) {
@@ -1165,13 +1157,13 @@ public final class SoftController {
             closes(')');
             opens('{');
             for (int n = 0; n < MOST_TOKENS && tokens.is(WORD_VAR); n++) {
-                tokens.next();
                 variables();
             }
             statements();
         }
 
         private void cyclic() {
+            tokens.next();
             tokens.take(A_NAME);
             tokens.take(WORD_EVERY);
             tokens.take(A_NUMBER);
@@ -1195,11 +1187,7 @@ public final class SoftController {
         }
 
         private void statement() {
-            int word = tokens.type();
-            if (word != A_NAME && (word < WORD_IF || word > WORD_FAULT)) {
-                tokens.refuseToken();
-            }
-            switch (word) {
+            switch (tokens.type()) {
                 case A_NAME: named(); break;
                 case WORD_IF: choice(); break;
                 case WORD_WHILE: tokens.next(); expression(); body(); break;
@@ -1426,10 +1414,6 @@ public final class SoftController {
             block = NONE;
         }
 
-        boolean isCalled(long wordHead, int wordTail) {
-            return head == wordHead && tail == wordTail;
-        }
-
         boolean isLocal() {
             return sort == PARAMETER || sort == LOCAL;
         }
@@ -1493,6 +1477,7 @@ public final class SoftController {
     /** What a text was made to: its NAMES, its tasks and its code. */
     private static final class Program {
         private final Name[] names = new Name[MOST_NAMES];
+        private final Name[] builtIns = new Name[BUILT_IN_OPERATIONS.length];
         private final Name unknown = new Name();
         private final int[][] sorted = new int[FUNCTION + 1][MOST_NAMES];
         private final int[] sorts = new int[FUNCTION + 1];
@@ -1514,6 +1499,18 @@ public final class SoftController {
             }
             for (int t = 0; t < MOST_TASKS; t++) {
                 tasks[t] = new Task();
+            }
+            int letter = 0;
+            for (int i = 0; i < builtIns.length; i++) {
+                long head = 0;
+                for (; letter < BUILT_INS.length() && BUILT_INS.charAt(letter) != ' '; letter++) {
+                    head = head << 8 | BUILT_INS.charAt(letter);
+                }
+                letter++;
+                builtIns[i] = new Name();
+                builtIns[i].become(BUILT_IN, head, 0);
+                builtIns[i].number = BUILT_IN_OPERATIONS[i];
+                builtIns[i].parameters = BUILT_IN_PARAMETERS[i];
             }
             owner = NONE;
         }
@@ -1547,19 +1544,26 @@ public final class SoftController {
         }
 
         Name localCalled(Name routine, long head, int tail) {
-            for (int k = 0; k < routine.locals; k++) {
-                Name local = local(routine, k);
-                if (local.isCalled(head, tail)) {
-                    return local;
+            int first = routine.index + 1;
+            for (int i = first; i < first + routine.locals && i < told; i++) {
+                if (names[i].head == head && names[i].tail == tail) {
+                    return names[i];
                 }
             }
             return unknown;
         }
 
+        /** What the text tells by a NAME, or one of the eight, which are told from the beginning. */
         Name ofText(long head, int tail) {
             for (int i = 0; i < told; i++) {
-                if (names[i].isCalled(head, tail) && !names[i].isLocal()) {
-                    return names[i];
+                Name name = names[i];
+                if (name.head == head && name.tail == tail && name.sort <= FUNCTION) {
+                    return name;
+                }
+            }
+            for (int i = 0; i < builtIns.length && tail == 0; i++) {
+                if (builtIns[i].head == head) {
+                    return builtIns[i];
                 }
             }
             return unknown;
@@ -1650,7 +1654,6 @@ public final class SoftController {
     /** Judges E's and makes them to code. The GRAMMAR has been checked, so its signs are passed over. */
     private static final class Terms {
         private final Tokens tokens;
-        private final Name[] builtIns = new Name[BUILT_IN_OPERATIONS.length];
         private final int[] signs = new int[MOST_WAITING];
         private final int[] signPlaces = new int[MOST_WAITING];
         private final int[] leftKinds = new int[MOST_WAITING];
@@ -1663,19 +1666,6 @@ public final class SoftController {
         Terms(Tokens read, Program any) {
             tokens = read;
             program = any;
-            int from = 0;
-            for (int i = 0; i < builtIns.length; i++) {
-                long head = 0;
-                int at = from;
-                for (; at < BUILT_INS.length() && BUILT_INS.charAt(at) != ' '; at++) {
-                    head = head << 8 | BUILT_INS.charAt(at);
-                }
-                from = at + 1;
-                builtIns[i] = new Name();
-                builtIns[i].become(BUILT_IN, head, 0);
-                builtIns[i].number = BUILT_IN_OPERATIONS[i];
-                builtIns[i].parameters = BUILT_IN_PARAMETERS[i];
-            }
         }
 
         void begin(Program draft) {
@@ -1688,17 +1678,7 @@ public final class SoftController {
             long head = tokens.head();
             int tail = tokens.tail();
             Name local = program.localCalled(program.name(program.owner), head, tail);
-            return local.sort != UNKNOWN ? local : global(head, tail);
-        }
-
-        Name global(long head, int tail) {
-            Name name = program.ofText(head, tail);
-            for (int i = 0; i < builtIns.length && name.sort == UNKNOWN; i++) {
-                if (builtIns[i].isCalled(head, tail)) {
-                    return builtIns[i];
-                }
-            }
-            return name;
+            return local.sort != UNKNOWN ? local : program.ofText(head, tail);
         }
 
         /** The variable, parameter or local of a Place; on the left it can't be an in variable. */
@@ -1772,24 +1752,21 @@ public final class SoftController {
             int all = kind;
             while (waiting > base && Tokens.strength(signs[waiting - 1]) >= strength) {
                 waiting--;
-                all = join(waiting, all);
+                int sign = signs[waiting];
+                int place = signPlaces[waiting];
+                int comparison = Tokens.comparison(sign);
+                if (sign == AND_THEN || sign == OR_ELSE) {
+                    program.step(DO_TRUTH, 0, 0, place);
+                    program.land(jumps[waiting]);
+                    all = INT;
+                } else if (comparison != NONE) {
+                    program.step(DO_PAIR, comparison, 0, place);
+                    all = INT;
+                } else {
+                    all = combine(Tokens.operation(sign), leftKinds[waiting], all, place);
+                }
             }
             return all;
-        }
-
-        private int join(int w, int right) {
-            int sign = signs[w];
-            if (sign == AND_THEN || sign == OR_ELSE) {
-                program.step(DO_TRUTH, 0, 0, signPlaces[w]);
-                program.land(jumps[w]);
-                return INT;
-            }
-            int comparison = Tokens.comparison(sign);
-            if (comparison != NONE) {
-                program.step(DO_PAIR, comparison, 0, signPlaces[w]);
-                return INT;
-            }
-            return combine(Tokens.operation(sign), leftKinds[w], right, signPlaces[w]);
         }
 
         /** The KIND that left op right is WORKED as. */
@@ -1959,22 +1936,17 @@ public final class SoftController {
                 }
                 int first = tokens.here();
                 int kind = expression();
-                if (given < routine.parameters) {
-                    bring(program.local(routine, given), kind, address, first);
+                Name parameter = program.local(routine, given);
+                if (parameter.sort == PARAMETER && isTooWide(kind, parameter.kind)) {
+                    tokens.refuse(BAD_KIND, first);
+                }
+                if (parameter.sort == PARAMETER && address != NONE) {
+                    program.step(DO_SET, address + parameter.at, parameter.kind, first);
                 }
             }
             tokens.next();
             if (given != routine.parameters) {
                 tokens.refuse(BAD_KIND, place);
-            }
-        }
-
-        private void bring(Name parameter, int kind, int address, int first) {
-            if (isTooWide(kind, parameter.kind)) {
-                tokens.refuse(BAD_KIND, first);
-            }
-            if (address != NONE) {
-                program.step(DO_SET, address + parameter.at, parameter.kind, first);
             }
         }
 
@@ -2041,22 +2013,18 @@ public final class SoftController {
             continues = NONE;
             tokens.rewind();
             for (int n = 0; n <= MOST_TOKENS && !tokens.is(THE_END); n++) {
-                item();
-            }
-        }
-
-        private void item() {
-            int word = tokens.type();
-            tokens.next();
-            switch (word) {
-                case WORD_VAR: variables(VARIABLE, BY_VAR); break;
-                case WORD_KEEP: variables(VARIABLE, BY_KEEP); break;
-                case WORD_IN: placed(BY_IN); break;
-                case WORD_OUT: placed(BY_OUT); break;
-                case WORD_BLOCK: routine(BLOCK, INT); break;
-                case WORD_USE: uses(); break;
-                case WORD_FUNC: routine(FUNCTION, tokens.takeKind()); break;
-                default: cyclic(); break;
+                int word = tokens.type();
+                tokens.next();
+                switch (word) {
+                    case WORD_VAR: variables(VARIABLE, BY_VAR); break;
+                    case WORD_KEEP: variables(VARIABLE, BY_KEEP); break;
+                    case WORD_IN: placed(BY_IN); break;
+                    case WORD_OUT: placed(BY_OUT); break;
+                    case WORD_BLOCK: routine(BLOCK, INT); break;
+                    case WORD_USE: uses(); break;
+                    case WORD_FUNC: routine(FUNCTION, tokens.takeKind()); break;
+                    default: cyclic(); break;
+                }
             }
         }
 
@@ -2065,7 +2033,7 @@ public final class SoftController {
             int place = tokens.here();
             long head = tokens.head();
             int tail = tokens.tail();
-            Name same = sort <= FUNCTION ? terms.global(head, tail)
+            Name same = sort <= FUNCTION ? program.ofText(head, tail)
                     : program.localCalled(program.name(program.owner), head, tail);
             if (same.sort != UNKNOWN) {
                 tokens.refuse(BAD_NAME, place);
