@@ -589,7 +589,7 @@ public final class SoftController {
         }
 
         static long combine(int op, boolean wide, long a, long b) {
-            long all = wide ? wideShift(op, a, b) : shift(op, (int) a, (int) b);
+            long all;
             switch (op) {
                 case PLUS: all = a + b; break;
                 case MINUS: all = a - b; break;
@@ -599,7 +599,7 @@ public final class SoftController {
                 case 5: all = a & b; break;
                 case 6: all = a | b; break;
                 case 7: all = a ^ b; break;
-                default: break;
+                default: all = wide ? wideShift(op, a, b) : shift(op, (int) a, (int) b); break;
             }
             return wide ? all : (int) all;
         }
@@ -780,7 +780,7 @@ public final class SoftController {
             throw new IllegalStateException("the text has a FAULT");
         }
 
-        /** A NUMBER's or CHARACTER's number; behind it then. */
+        /** The number of the NUMBER or CHARACTER here, which is passed over. */
         long takeNumber() {
             if ((tails[at] & IS_ABOVE) != 0) {
                 refuse(BAD_BOUND, places[at]);
@@ -805,6 +805,7 @@ public final class SoftController {
             return kind;
         }
 
+        /** Whether the TAPE's bytes are one word: no other byte may come into a head or tail. */
         boolean isWord(int bytes) {
             length = bytes;
             if (bytes < 1 || bytes > MOST_LETTERS) {
@@ -2028,7 +2029,7 @@ public final class SoftController {
             }
         }
 
-        /** Tells the NAME here; behind it then. */
+        /** Tells the NAME here, which is passed over. */
         private Name newName(int sort) {
             int place = tokens.here();
             long head = tokens.head();

@@ -97,6 +97,10 @@ final class VariablesTest {
         Checks.refused("variable(0, 5)", IllegalArgumentException.class, () -> c.variable(0, 5));
         Checks.refused("variable(0, -1)", IllegalArgumentException.class, () -> c.variable(0, -1));
         Checks.same("nothing is changed", c.sum(), before);
+        // What is told directly behind a block is none of its locals.
+        SoftController behind = Checks.with("block k(int p) { var int m[2]; } var int n = 5; use k u; var int last;");
+        Checks.refused("field(0, 2, 0)", NoSuchElementException.class, () -> behind.field(0, 2, 0));
+        Checks.refused("field(0, 1, 2)", NoSuchElementException.class, () -> behind.field(0, 1, 2));
         SoftController empty = new SoftController();
         Checks.refused("value of nothing", NoSuchElementException.class, () -> empty.value(0, 0));
         Checks.refused("field of nothing", NoSuchElementException.class, () -> empty.field(0, 0, 0));
