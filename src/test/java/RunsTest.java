@@ -53,7 +53,7 @@ final class RunsTest {
             {"lead(b)", 0L}, {"b.7", 1L}, {"b.6", 0L}, {"l.32", 1L}, {"w.15 + r[1].2", 2L}, {"'a' + ' '", 129L}, {"now", 0L},
             {"0 && f(9) || r[0]", 1L}, {"(0 && f(9)) + r[0]", 4L}, {"(1 || f(9)) + r[0]", 5L}, {"(1 && f(9)) + r[0]", 9L},
             {"(1 ? 0 : f(9)) + r[0]", 4L}, {"r[r[1] - 3] + r[(byte) 2]", 8L}, {"r[0] + f(3) + r[0]", 7L},
-            {"0xffffffff", -1L}, {"0xffffffffL", 4294967295L}, {"1 ? 0xffffffff : 0L", -1L}, {"i == -7L", 1L}, {"!l", 0L}};
+            {"0xffffffff", -1L}, {"0xffffffffL", 4294967295L}, {"0x09afAF90", 162508688L}, {"0xFEDCBA9876543210L", -81985529216486896L}, {"1 ? 0xffffffff : 0L", -1L}, {"i == -7L", 1L}, {"!l", 0L}};
         for (Object[] row : rows) {
             Checks.worked(told, (String) row[0], (Long) row[1]);
         }

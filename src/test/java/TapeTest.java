@@ -66,6 +66,16 @@ final class TapeTest {
         Checks.same("end(7)", c.end(7), true);
         Checks.same("bytes then", c.count(9), 7);
         Checks.same("end(8)", c.end(8), false);
+        // Bytes behind the end are none of the text's: neither the x of 5x nor the second / of a note.
+        c.load(false);
+        Checks.feed(c, "var int a = 5xxxxxxx");
+        c.end(13);
+        Checks.same("load of a text cut behind 5", c.load(false), 2);
+        Checks.same("its place", c.place(), 13);
+        Checks.feed(c, "//");
+        c.end(1);
+        Checks.same("load of /", c.load(false), 2);
+        Checks.same("its place then", c.place(), 0);
     }
 
     private static int find(SoftController c, String name, int sort) {

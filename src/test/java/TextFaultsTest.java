@@ -73,6 +73,9 @@ final class TextFaultsTest {
         Checks.fault(2, "var int a@");
         Checks.fault(2, "var int a;  // ends\n task t every 1 {  @");
         Checks.fault(2, "var @a;");
+        Checks.fault(2, "var @if a;");
+        Checks.fault(2, "var @after a;");
+        inTask(2, "i = (@if) 1;");
         Checks.fault(2, "var int a[@-1];");
         Checks.fault(2, "var int a = @b;");
         Checks.fault(2, "var int a = - @-1;");
@@ -209,7 +212,7 @@ final class TextFaultsTest {
             {"i", "l"}, {"a", "128"}, {"a", "-129"}, {"w", "-1"}, {"a", "-(5)"}, {"a", "- -5"}, {"a", "5 + 5"}, {"a", "-a"},
             {"a", "~a"}, {"a", "!a"}, {"a", "a ? a : a"}, {"a", "1 ? 1 : 1"}, {"i", "1 ? 1 : 1L"}, {"i", "a + 1L"},
             {"i", "l << 1"}, {"i", "min(1, 1L)"}, {"i", "abs(1L)"}, {"i", "rev(l)"}, {"i", "rol(l, 1)"}, {"a", "0xff"},
-            {"i", "2147483648L"}, {"a", "a.0"}, {"a", "now"}, {"a", "f(1)"}, {"a", "(int) 5"}};
+            {"i", "2147483648L"}, {"a", "-4294967301L"}, {"a", "a.0"}, {"a", "now"}, {"a", "f(1)"}, {"a", "(int) 5"}};
         for (String[] one : wide) {
             inTask(4, one[0] + " @= " + one[1] + ";");
         }

@@ -89,6 +89,11 @@ final class TraceTest {
         Checks.same("the 100th latest", c.event(99, 3), 51);
         Checks.same("its TICK", c.event(99, 0), 50);
         Checks.refused("event(100)", NoSuchElementException.class, () -> c.event(100, 0));
+        c.trace(0, 0, false);
+        c.scan(1);
+        Checks.same("100 events still", c.count(8), 100);
+        Checks.same("the latest then", c.event(0, 3), -202);
+        Checks.same("the 100th latest then", c.event(99, 3), -102);
     }
 
     private static void sixteen() {
