@@ -14,8 +14,13 @@ final class Checks {
         done++;
         if (got != due) {
             wrong++;
-            System.out.println(what + " answered " + got + ", due is " + due);
+            System.out.println(shortened(what) + " answered " + got + ", due is " + due);
         }
+    }
+
+    private static String shortened(String what) {
+        int length = what.length();
+        return length <= 500 ? what : what.substring(0, 240) + " .. " + what.substring(length - 240);
     }
 
     static void same(String what, boolean got, boolean due) {
@@ -109,6 +114,48 @@ final class Checks {
         SoftController c = with(tellings + " task task_ every 1 { " + stats + " }");
         c.scan(1);
         same("WORK of " + stats, c.task(0, 4), due);
+    }
+
+    /** A call on an object. */
+    interface Use {
+        void on(SoftController c);
+    }
+
+    /** A call that throws changes nothing that can be asked. */
+    static void refusedOn(SoftController c, String what, Class<?> due, Use use) {
+        String before = state(c);
+        refused(what, due, () -> use.on(c));
+        unchanged(what, c, before);
+    }
+
+    static void unchanged(String what, SoftController c, String before) {
+        done++;
+        String after = state(c);
+        if (!after.equals(before)) {
+            wrong++;
+            System.out.println(what + " changed " + before + " to " + after);
+        }
+    }
+
+    /** What can be asked of an object, in few calls: an object has 512 of them at most. */
+    static String state(SoftController c) {
+        StringBuilder all = new StringBuilder();
+        for (int what = 0; what < 11; what++) {
+            all.append(c.count(what)).append(' ');
+        }
+        all.append(c.place()).append(' ').append(c.sum());
+        for (int task = 0; task < c.count(2); task++) {
+            for (int what = 0; what < 9; what++) {
+                all.append(' ').append(c.task(task, what));
+            }
+        }
+        for (int what = 0; what < 8; what++) {
+            all.append(' ').append(c.look(what, 0)).append(' ').append(c.look(what, 63));
+        }
+        for (int k = 0; k < c.count(8) && k < 4; k++) {
+            all.append(' ').append(c.event(k, 0)).append(' ').append(c.event(k, 1)).append(' ').append(c.event(k, 3));
+        }
+        return all.toString();
     }
 
     static void close(String test) {

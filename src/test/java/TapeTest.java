@@ -21,11 +21,6 @@ final class TapeTest {
         Checks.same("sum", c.sum(), 0);
         Checks.same("scan", c.scan(50), 0);
         Checks.same("TICK", c.count(5), 50);
-        for (int what = 0; what < 8; what++) {
-            for (int at = 0; at < 64; at++) {
-                Checks.same("look(" + what + ", " + at + ")", c.look(what, at), 0);
-            }
-        }
     }
 
     private static void feeding() {
