@@ -393,9 +393,17 @@ final class EdgesOfCallsTest {
                 Checks.same("'" + names[n] + "' as " + sort, d.find(sort), sort == sorts[n] ? numbers[n] : -1);
             }
         }
+        // Bytes between, however many, make it another NAME; so does all that is behind the NAME.
+        for (String longer : new String[] {"twelve_czzhars", "twelve_czzzzhars", "twelve_charstwelve_chars", "a".repeat(6000)}) {
+            d.end(0);
+            Checks.feed(d, longer);
+            Checks.same(longer.length() + " bytes", d.find(0), -1);
+        }
+        // The latest load's text does not matter, when it was refused.
         d.end(0);
-        Checks.feed(d, "a".repeat(6000));
-        Checks.same("6000 bytes", d.find(0), -1);
+        Checks.same("load of a FAULT", Checks.load(d, "#", false), 1);
+        Checks.feed(d, "twelve_charz");
+        Checks.same("twelve_charz", d.find(0), 1);
     }
 
     /** It is to be traced, 16 are already, and this one is not. */

@@ -201,17 +201,25 @@ final class EdgesOfGrammarTest {
         Checks.same("720 Labels", lastNumber("var int x = 719; task t every 1 { switch x { case " + labels + " { x = 77; } } }"), 77);
         Checks.same("one besides them", lastNumber("var int x = 720; task t every 1 { switch x { case " + labels + " { x = 77; } } }"), 720);
         // Ten operators wait at each of 21 open places, and seven calls within one another do that.
-        String deep = times("0||1&&0|1^1&1==1<1<<1+1*(", 21) + "f(n-1)" + times(")", 21);
-        long all = 0;
+        String ten = "0||1&&0|0^1&0==2<1<<1+1*";
+        String deep = times(ten + "(", 21) + "f(n-1)" + times(")", 21);
+        int all = 0;
         for (int n = 1; n <= 7; n++) {
             for (int i = 0; i < 21; i++) {
-                int shifted = 1 << 1 + (int) all;
-                all = (1 ^ (1 < shifted ? 1 : 0)) != 0 ? 1 : 0;
+                all = ofTen(all);
             }
             all = 30 * n + all;
         }
         Checks.same("waiting operators", lastNumber("var int x; func int f(int n) { if n == 0 { return 0; } return 30 * n + (" + deep + "); }"
                 + " task t every 1 { x = f(7); }"), all);
+        // At most 24 places are open in a task, so 240 operators wait.
+        for (int first = 0; first < 2; first++) {
+            int inner = first;
+            for (int i = 0; i < 24; i++) {
+                inner = ofTen(inner);
+            }
+            Checks.same("240 that wait", lastNumber("var int x; task t every 1 { x = " + times(ten + "(", 23) + ten + first + times(")", 23) + "; }"), inner);
+        }
         String sums = times("1+2*(", 20) + "f(n-1)" + times(")", 20);
         long due = 0;
         for (int n = 0; n < 7; n++) {
@@ -221,6 +229,11 @@ final class EdgesOfGrammarTest {
         }
         Checks.same("waiting numbers", lastNumber("var int x; func int f(int n) { if n == 0 { return 0; } return " + sums + "; }"
                 + " task t every 1 { x = f(7); }"), due);
+    }
+
+    /** What 0||1&&0|0^1&0==2<1<<1+1* and a number come to: 1 for 0, 0 for 1. */
+    private static int ofTen(int number) {
+        return 2 < 1 << 1 + number ? 0 : 1;
     }
 
     /** With each way to be OPEN: 24 are sound (the task's { is one), the 25th can't stand. */
