@@ -123,6 +123,10 @@ final class EdgesOfGrammarTest {
         Checks.fault(2, "block k() { @");
         Checks.fault(2, "task t every 1 @i = 1; }");
         Checks.fault(2, "task t every 1 { i @1; }");
+        Checks.fault(2, "task t every 1 { i@; }");
+        Checks.fault(2, "task t every 1 { i[0]@; }");
+        Checks.fault(2, "task t every 1 { i.0@; }");
+        Checks.fault(2, "task t every 1 { i @}");
         Checks.fault(2, "task t every 1 { i = 1 ? 2 @3; }");
         Checks.fault(2, "task t every 1 { i = (1 @; }");
         Checks.fault(2, "task t every 1 { i = 1@); }");

@@ -34,6 +34,8 @@ final class EdgesOfReloadTest {
         power();
         powerBehindWarm();
         loadsInTurn();
+        refusedWithin();
+        loadsOfMuch();
         Checks.close("EdgesOfReloadTest");
     }
 
@@ -193,6 +195,21 @@ final class EdgesOfReloadTest {
             Checks.same("the TICK of its FAULT", c.task(0, 7), warm ? 3 : 0);
             Checks.same("fault's number", c.task(0, 8), warm ? 2 : 1);
         }
+        // Also when it is the third and fourth text, and one that was refused is between.
+        for (boolean warm : new boolean[] {false, true}) {
+            SoftController c = new SoftController();
+            for (int n = 0; n < 5; n++) {
+                Checks.same("load", Checks.load(c, text, warm), 0);
+                for (int what = 2; what < 9; what++) {
+                    Checks.same("task(0, " + what + ") of text " + n, c.task(0, what), 0);
+                }
+                c.scan(2);
+                c.clear(0);
+                c.scan(3);
+                Checks.same("the TICK of its FAULT", c.task(0, 7), warm ? 5 * n + 2 : 2);
+                Checks.same("refused", Checks.load(c, "var int zz; task zz every 1 {}", warm), 3);
+            }
+        }
         // The TICK goes on, so it is the new text's every that tells when.
         SoftController d = Checks.with("task t every 1 {}");
         d.scan(7);
@@ -302,6 +319,63 @@ final class EdgesOfReloadTest {
             c.scan(4);
             fresh.scan(4);
             Checks.unchanged("behind " + ahead[0] + " and " + ahead[1], c, Checks.state(fresh));
+        }
+    }
+
+    /** What was OPEN, waiting, told or a loop where a text was refused is none of the next text's. */
+    private static void refusedWithin() {
+        String deepest = "var int y; task t every 1 { y = " + "(".repeat(23) + "1" + ")".repeat(23) + "; }";
+        SoftController c = new SoftController();
+        for (String open : new String[] {"task t every 1 { if 1 { y = ((( #", "task t every 1 { y = - - - - ;", "task t every 1 { y = 1 ? 2 ? ", "block k(int p) { x[(int) ("}) {
+            Checks.same("refused", Checks.load(c, open, false) == 0, false);
+            Checks.same("23 brackets", Checks.load(c, deepest, false), 0);
+        }
+        SoftController d = new SoftController();
+        for (String word : new String[] {"break", "continue"}) {
+            Checks.same("refused", Checks.load(d, "task t every 1 { while 1 { while 1 { q = 1; } } }", false), 3);
+            Checks.same(word + " in no loop", Checks.load(d, "task t every 1 { " + word + "; }", false), 3);
+            Checks.same("its place", d.place(), 17);
+            Checks.same("refused", Checks.load(d, "func int f() { while 1 { q = 1; } }", false), 3);
+            Checks.same("return in no function", Checks.load(d, "task t every 1 { return 1; }", false), 3);
+            Checks.same("no parameter", Checks.load(d, "block b(int p) { q = 1; }", false), 3);
+            Checks.same("p is not told", Checks.load(d, "task t every 1 { p = 1; }", false), 3);
+        }
+        SoftController e = new SoftController();
+        for (int n = 0; n < 30; n++) {
+            Checks.same("refused", Checks.load(e, "task t every 1 { fault 0||1&&0|0^1&0==2<1<<1+1*q; }", false), 3);
+        }
+        Checks.same("load", Checks.load(e, "var int v; task t every 1 { v = 1 + 2 * 3 - (4 << 1 | 1); }", false), 0);
+        e.scan(1);
+        Checks.same("1 + 6 - 9", e.value(0, 0), -2);
+    }
+
+    /** Texts with as much as there may be, one behind another on one object. */
+    private static void loadsOfMuch() {
+        SoftController c = new SoftController();
+        String stats = "var int x; task t every 1 { " + "x++;".repeat(496) + "}";
+        for (int n = 1; n <= 4; n++) {
+            Checks.same("load of 496 Stats", Checks.load(c, stats, n % 2 == 0), 0);
+            c.scan(1);
+            Checks.same("all are done", c.value(0, 0), n % 2 == 0 ? 992 : 496);
+        }
+        SoftController d = new SoftController();
+        String labels = "var int x = 7; task t every 1 { switch x { case " + "2,".repeat(700) + "7 { x = 5; } } }";
+        for (int n = 1; n <= 4; n++) {
+            Checks.same("load of 701 Labels", Checks.load(d, labels, false), 0);
+            d.scan(1);
+            Checks.same("the last one", d.value(0, 0), 5);
+        }
+        SoftController e = new SoftController();
+        for (int n = 1; n <= 30; n++) {
+            Checks.same("load of 400 longs", Checks.load(e, "var long a[200] = " + n + ", b[200] = -" + n + ";", false), 0);
+            Checks.same("the first", e.value(0, 0), n);
+            Checks.same("the last", e.value(1, 199), -n);
+        }
+        SoftController f = new SoftController();
+        for (int n = 1; n <= 12; n++) {
+            Checks.same("refused", Checks.load(f, "var int a[200], b[200] = 3, c;", true), 5);
+            Checks.same("load", Checks.load(f, "var int a[200] = 1, b[200] = 2;", true), 0);
+            Checks.same("b[199]", f.value(1, 199), 2);
         }
     }
 }

@@ -18,6 +18,7 @@ final class EdgesOfRunsTest {
         loopsUpToTheMost();
         loopsAtTheirEnds();
         leavingLoops();
+        nestedLoops();
         switches();
         blocks();
         functions();
@@ -302,6 +303,27 @@ final class EdgesOfRunsTest {
         Checks.same("the task's return", d.value(0, 0), 7);
     }
 
+    /** Loops and switches within one another: each for has an end of its own, each break and continue a loop of its own. */
+    private static void nestedLoops() {
+        SoftController c = Checks.with("var int i, j, k, n; task t every 1 { for i = 1 .. 4 { for j = 1 .. 2 { for k = 1 .. 3 { n++; } n += 100; } n += 10000; } }");
+        c.scan(1);
+        Checks.same("rounds", c.value(3, 0), 4 * 10000 + 8 * 100 + 24);
+        SoftController d = Checks.with("var int i, j, k, n; task t every 1 { for i = 1 .. 5 { if i == 2 { continue; } if i == 5 { break; } for j = 1 .. 3 { if j == 2 { continue; } n++; }"
+                + " k = 0; while k < 4 { k++; if k == 2 { continue; } n += 100; } n += 10000; } }");
+        d.scan(1);
+        Checks.same("1, 3 and 4 in full", d.value(3, 0), 3 * 10000 + 9 * 100 + 3 * 2);
+        Checks.same("left at 5", d.value(0, 0), 5);
+        Checks.same("the inner one is over at its end", d.value(1, 0), 3);
+        SoftController e = Checks.with("var int i, j, n; task t every 1 { for i = 1 .. 6 { switch i { case 2 { n++; } case 3, 4 { for j = 1 .. i { switch j { case 9 {} default { n += 10; } } } }"
+                + " case 5 { switch n { default { n += 100; } } } default { n += 1000; } } switch i { case 1 { continue; } } n += 10000; } }");
+        e.scan(1);
+        Checks.same("switches in a for", e.value(2, 0), 1 + 70 + 100 + 2000 + 50000);
+        Checks.same("its end", e.value(0, 0), 6);
+        SoftController w = Checks.with("var int i, j, n; task t every 1 { while i < 3 { i++; for j = 1 .. 2 { if i == 2 { break; } n++; } switch i { case 1 .. 3 { n += 10; } } } }");
+        w.scan(1);
+        Checks.same("a for and a switch in a while", w.value(2, 0), 4 + 30);
+    }
+
     /** The first case with a Label in which E's number lies, KINDS do not matter, else default; both ends belong to it. */
     private static void switches() {
         for (int kind = 0; kind < 5; kind++) {
@@ -363,6 +385,13 @@ final class EdgesOfRunsTest {
             }
             Checks.worked("func K f() {}".replace("K", KINDS[kind]), "f()", 0);
             Checks.worked("func K f(int p) { if p { return 7; } }".replace("K", KINDS[kind]), "f(1) * 10 + f(0)", 70);
+        }
+        SoftController late = Checks.with("var int n = 5, m = 5; func int f() {} func long g(int p) { if p { return p; } } task t every 1 { n = f(); m = (int) g(0); }");
+        for (int tick = 0; tick < 4; tick++) {
+            late.poke(0, 0, 5);
+            late.poke(1, 0, 5);
+            late.scan(1);
+            Checks.same("0 without a return, in every TICK", late.value(0, 0) + late.value(1, 0), 0);
         }
         Checks.worked("func int f(int a, int b, int c, int d, int e, int g) { return a * 100000 + b * 10000 + c * 1000 + d * 100 + e * 10 + g; }",
                 "f(1, 2, 3, 4, 5, 6)", 123456);
