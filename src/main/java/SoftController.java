@@ -504,9 +504,8 @@ public final class SoftController {
         if (!Numbers.isKind(kind) || !Numbers.isKind(right) || op < 0 || op > LAST_TELL) {
             throw new IllegalArgumentException("no KIND or no such op");
         }
-        boolean ofLeft = op >= ROTATE_LEFT;
-        boolean wide = kind == LONG || !ofLeft && right == LONG;
-        return Numbers.apply(op, wide, Numbers.cutTo(kind, a), Numbers.cutTo(right, b));
+        // Comparisons, min and max come to the same in both widths; all others hang on a alone.
+        return Numbers.apply(op, kind == LONG, Numbers.cutTo(kind, a), Numbers.cutTo(right, b));
     }
 
     private void append(int number) {
