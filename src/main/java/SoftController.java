@@ -44,6 +44,7 @@ public final class SoftController {
     private static final int INT = 3;
     private static final int LONG = 4;
     private static final int[] BITS = {8, 16, 16, 32, 64};
+    private static final int GREATEST_INT = 2147483647;
 
     // What a NAME is; the first five as find() and count() number them.
     private static final int VARIABLE = 0;
@@ -579,6 +580,10 @@ public final class SoftController {
             return kind == LONG || other == LONG ? LONG : INT;
         }
 
+        static long negative(boolean wide, long a) {
+            return wide ? -a : (int) -a;
+        }
+
         static boolean divides(int op) {
             return op == DIVIDE || op == MODULO;
         }
@@ -764,13 +769,18 @@ public final class SoftController {
 
         void take(int type) {
             if (types[at] != type) {
-                refuseToken();
+                refuse(misfit(), places[at]);
             }
             next();
         }
 
         void refuseToken() {
-            refuse(types[at] == BROKEN ? NO_TOKEN : BAD_TOKEN, places[at]);
+            refuse(misfit(), places[at]);
+        }
+
+        /** The FAULT that there is if the token here can't stand here. */
+        private int misfit() {
+            return types[at] == BROKEN ? NO_TOKEN : BAD_TOKEN;
         }
 
         void refuse(int number, int where) {
@@ -920,7 +930,7 @@ public final class SoftController {
                 return behind;
             }
             long number = decimal(first, stop);
-            boolean above = number < 0 || !wide && number > Integer.MAX_VALUE;
+            boolean above = number < 0 || !wide && number > GREATEST_INT;
             put(A_NUMBER, number, above ? marks | IS_ABOVE : marks);
             return behind;
         }
@@ -1808,7 +1818,7 @@ public final class SoftController {
             int operation = sign == '-' ? NEGATE : sign == '~' ? INVERT : NOT;
             program.step(DO_SINGLE, operation, kind == LONG ? 1 : 0, place);
             isConst = sign == '-' && ofNumber;
-            constNumber = Numbers.apply(NEGATE, kind == LONG, constNumber, 0);
+            constNumber = Numbers.negative(kind == LONG, constNumber);
             return sign == '!' ? INT : kind;
         }
 
@@ -2088,7 +2098,7 @@ public final class SoftController {
             boolean wide = tokens.isWide();
             long number = tokens.takeNumber();
             if (minus) {
-                number = Numbers.apply(NEGATE, wide, number, 0);
+                number = Numbers.negative(wide, number);
             }
             if (!Numbers.fits(kind, number)) {
                 tokens.refuse(BAD_BOUND, place);
